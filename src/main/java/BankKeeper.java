@@ -235,6 +235,7 @@ public final class BankKeeper {
         now++;
     }
 
+    // Counted, not worked out as NOW % REFI: so nothing divides by what a caller has set.
     private void oweRefreshInTime() {
         if (sinceOwed >= banks.refreshInterval()) {
             owed++;
@@ -326,6 +327,7 @@ public final class BankKeeper {
         }
     }
 
+    /** Whether a reading of its address waits that came before it. */
     private boolean isHeld(int writing) {
         int address = requests.addressOf(writing);
         for (int i = 0; i < readings.size(); i++) {
@@ -669,7 +671,7 @@ public final class BankKeeper {
             words[ticket] = word;
         }
 
-        /** The request waits no more, and is done in the cycle end. */
+        /** The request waits no more, and is done in the cycle end (NONE: before any cycle). */
         void finish(int ticket, long word, int lastStage, int end) {
             words[ticket] = word;
             lastStages[ticket] = lastStage;

@@ -157,28 +157,32 @@ public final class BankKeeperPromises {
         given(x, "A0.0@0 R0.0#0@3 R0.1#2@7");
     }
 
-    // A reading of row 1 is kept waiting by readings of row 0 for 300 cycles, and no longer.
+    // A reading of row 1 is kept waiting by quick ones of row 0 up to its age 300, and no longer.
     private static void highestCap() {
-        for (int cap = 299; cap <= 302; cap++) {
-            BankKeeper x = new BankKeeper(8, cap);
-            x.timing(REFI, 400);
-            x.read(0);
-            x.cycles(7);
-            // With two quick ones at first, one of them wants row 0 in every cycle.
-            readings(x, 32, 1);
-            for (int now = 7; now < 307; now += 4) {
-                x.read(1);
-                x.cycles(4);
-            }
-            due("up to 306, cap " + cap, x.command(0, 3), 303);
-            x.read(1);
-            x.cycles(1);
-            due("in 307, cap " + cap, x.command(0, 3), 307);
-            due("in 307, cap " + cap, x.command(0, 0), cap < 300 ? 1 : 2);
-            x.cycles(3);
-            due("in 310, cap " + cap, x.command(0, 3), 310);
-            due("in 310, cap " + cap, x.command(0, 0), cap < 300 ? 0 : 1);
+        for (int cap = 300; cap <= 302; cap++) {
+            due("age 300, cap " + cap, kindIn307(cap, 7), 2);
+            due("age 301, cap " + cap, kindIn307(cap, 6), 1);
         }
+        due("age 300, cap 299", kindIn307(299, 7), 1);
+    }
+
+    /** Which command cycle 307 gets, when the reading of row 1 came in cycle came. */
+    private static int kindIn307(int cap, int came) {
+        BankKeeper x = new BankKeeper(8, cap);
+        x.timing(REFI, 400);
+        x.read(0);
+        x.cycles(came);
+        // With two quick ones at first, one of them wants row 0 in every cycle.
+        readings(x, 32, 1);
+        for (int i = 0; i < 75; i++) {
+            x.read(1);
+            x.cycles(4);
+        }
+        x.cycles(307 - x.state(0));
+        due("the latest before 307", x.command(0, 3), 303);
+        x.cycles(1);
+        due("the latest", x.command(0, 3), 307);
+        return x.command(0, 0);
     }
 
     private static void firstState() {
@@ -397,6 +401,11 @@ public final class BankKeeperPromises {
         writings(x, 0, 32);
         x.cycles(50);
         given(x, "A0.0@0 W0.0#0@3 P0@11 A0.1@14 W0.0#1@17");
+        // What never was bounds nothing: there was no READ.
+        x = keeper(RTP, 30);
+        writings(x, 0, 32);
+        x.cycles(50);
+        given(x, "A0.0@0 W0.0#0@3 P0@14 A0.1@17 W0.0#1@20");
         x = keeper(CWL, 5);
         writings(x, 0, 32);
         x.cycles(50);
@@ -594,6 +603,14 @@ public final class BankKeeperPromises {
         readings(x, 0, 8);
         x.cycles(50);
         given(x, "A0.0@0 R0.0#0@3 A1.0@4 R1.0#1@7");
+        x = new BankKeeper(8, 1);
+        writings(x, 0, 8);
+        x.cycles(50);
+        given(x, "A0.0@0 W0.0#0@3 A1.0@4 W1.0#1@7");
+        x = new BankKeeper(8, 0);
+        writings(x, 0, 32, 1);
+        x.cycles(50);
+        given(x, "A0.0@0 W0.0#0@3 P0@14 A0.1@17 W0.0#1@20 P0@31 A0.0@34 W0.1#2@37");
     }
 
     private static void draining() {
