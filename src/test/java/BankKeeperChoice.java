@@ -351,8 +351,8 @@ public final class BankKeeperChoice {
                     .given("A0.0@0 W0.0#0@3 W0.1#2@7 P0@18 A0.1@21 W0.0#1@24");
         });
         Sentences.test("whose row is open in its bank (not the same row in another bank)", () ->
-                Kept.with().reads(0).pass(4).reads(40, 32).pass(5)
-                        .given("A0.0@0 R0.0#0@3 A1.1@4 R1.0#1@7 P0@8"));
+                Kept.with(RAS, 30).reads(0).pass(4).reads(40, 32).pass(27)
+                        .given("A0.0@0 R0.0#0@3 A1.1@4 R1.0#1@7 P0@30"));
         Sentences.test("and whose READ or WRITE is allowed (that of an older one is not yet)", () ->
                 Kept.with(RCD, 10).reads(8).pass(11).reads(0, 9).pass(20)
                         .given("A1.0@0 R1.0#0@10 A0.0@11 R1.1#2@14 R0.0#1@21"));

@@ -165,8 +165,8 @@ public final class BankKeeperWords {
         Sentences.test("A READ takes the word as it is stored in its cycle", () -> {
             Kept x = Kept.with().reads(9).pass(3).flips(9, 3, 5).pass(1);
             x.value(0, 3L);
-            x.flips(9, 3, 5, 6, 7).pass(10);
-            x.value(0, 3L);
+            x.flips(9, 3, 5, 6, 7).value(0, 3L);
+            x.pass(10).value(0, 3L);
             x.status(0, BAD);
             x = Kept.with().reads(9).pass(4).flips(9, 3).pass(10);
             x.value(0, 0L);
